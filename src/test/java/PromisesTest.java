@@ -24,13 +24,16 @@ public final class PromisesTest {
         deliverSummaryAsItWas();
         onTheWay();
         totalSumExtreme();
+        keptWithoutItems();
         covered();
         estimateByTaking();
         estimateByMerging();
         mergingGoesByChildNumber();
         top();
         digestSize();
-        compressInPasses();
+        compress();
+        compressFromTheSmallestRanges();
+        compressInSeveralPasses();
         below();
         quantile();
         quantileIsNotRounded();
@@ -464,12 +467,35 @@ public final class PromisesTest {
         CHECK.due("extreme(0, false)", tree.extreme(0, false), -1);
         reportAndDeliver(tree, 3);
         CHECK.due("extreme(0, false)", tree.extreme(0, false), 30);
+        CHECK.due("crash(0)", tree.crash(0), true);
+        reportAndDeliver(tree, 2);
+        CHECK.due("extreme(0, true)", tree.extreme(0, true), 0);
         for (int node : new int[] {4, -1, 12, Integer.MIN_VALUE, Integer.MAX_VALUE}) {
             CHECK.due("total(" + node + ")", tree.total(node), -1);
             CHECK.due("sum(" + node + ")", tree.sum(node), -1);
             CHECK.due("extreme(" + node + ", true)", tree.extreme(node, true), -1);
             CHECK.due("extreme(" + node + ", false)", tree.extreme(node, false), -1);
         }
+    }
+
+    private static void keptWithoutItems() {
+        CHECK.at("terms, a kept summary without items");
+        TelemetryTree tree = oneLeaf(1, 2);
+        CHECK.due("attach(0, false)", tree.attach(0, false), 2);
+        CHECK.due("attach(2, true)", tree.attach(2, true), 3);
+        addAndFlush(tree, 1, 20);
+        addAndFlush(tree, 3, 9);
+        reportAndDeliver(tree, 1);
+        reportAndDeliver(tree, 3);
+        CHECK.due("crash(2)", tree.crash(2), true);
+        reportAndDeliver(tree, 2);
+        CHECK.due("total(0)", tree.total(0), 1);
+        CHECK.due("extreme(0, false)", tree.extreme(0, false), 20);
+        CHECK.due("extreme(0, true)", tree.extreme(0, true), 20);
+        CHECK.due("crash(0)", tree.crash(0), true);
+        reportAndDeliver(tree, 2);
+        CHECK.due("extreme(0, true)", tree.extreme(0, true), -1);
+        CHECK.due("quantile(0, 0)", tree.quantile(0, 0), -1);
     }
 
     private static void covered() {
@@ -605,12 +631,15 @@ public final class PromisesTest {
         reportAndDeliver(tree, 1);
         CHECK.due("digestSize(0)", tree.digestSize(0), 4);
         CHECK.due("digestSize(2)", tree.digestSize(2), -1);
+        TelemetryTree ends = oneLeaf(1, 16);
+        addAndFlush(ends, 1, 0, 31);
+        CHECK.due("digestSize(1)", ends.digestSize(1), 2);
         for (int node : NO_NODES) {
             CHECK.due("digestSize(" + node + ")", tree.digestSize(node), -1);
         }
     }
 
-    private static void compressInPasses() {
+    private static void compress() {
         CHECK.at("terms, compress");
         TelemetryTree tree = oneLeaf(1, 2);
         // n = 1, t = 0: nothing can rise.
@@ -635,6 +664,45 @@ public final class PromisesTest {
         CHECK.due("below(1, 16, true)", tree.below(1, 16, true), 3);
         CHECK.due("below(1, 17, true)", tree.below(1, 17, true), 4);
         CHECK.due("below(1, 31, false)", tree.below(1, 31, false), 2);
+    }
+
+    private static void compressFromTheSmallestRanges() {
+        CHECK.at("terms, the order of a pass");
+        TelemetryTree tree = oneLeaf(1, 2);
+        // n = 3, t = 1: range 2 has 1, range 3 has 1, and the second 0 rises to range 4 only.
+        addAndFlush(tree, 1, 0, 31, 0);
+        CHECK.due("digestSize(1)", tree.digestSize(1), 3);
+        CHECK.due("below(1, 8, false)", tree.below(1, 8, false), 1);
+        CHECK.due("below(1, 16, false)", tree.below(1, 16, false), 2);
+        // n = 4, t = 2: range 3 gets the 30 and range 2 what range 4 had, before range 1 is asked.
+        addAndFlush(tree, 1, 30);
+        CHECK.due("digestSize(1)", tree.digestSize(1), 2);
+        CHECK.due("below(1, 16, false)", tree.below(1, 16, false), 2);
+        CHECK.due("below(1, 16, true)", tree.below(1, 16, true), 2);
+        CHECK.due("below(1, 15, false)", tree.below(1, 15, false), 0);
+        CHECK.due("below(1, 32, false)", tree.below(1, 32, false), 4);
+    }
+
+    private static void compressInSeveralPasses() {
+        CHECK.at("terms, compress after merging");
+        TelemetryTree tree = new TelemetryTree(1, 2);
+        CHECK.due("attach(0, true)", tree.attach(0, true), 1);
+        CHECK.due("attach(0, true)", tree.attach(0, true), 2);
+        // Ranges 2 and 3 have 1 each, and range 32 has 2.
+        addAndFlush(tree, 1, 0, 31);
+        addAndFlush(tree, 2, 0, 0);
+        reportAndDeliver(tree, 1);
+        CHECK.due("below(0, 16, false)", tree.below(0, 16, false), 1);
+        CHECK.due("below(0, 1, true)", tree.below(0, 1, true), 1);
+        reportAndDeliver(tree, 2);
+        // n = 4, t = 2: pass 1 lifts range 32 up to range 4 and ranges 2 and 3 to range 1; pass 2 lifts
+        // range 4 to range 2, which stays there, since range 1 would have 4.
+        CHECK.due("digestSize(0)", tree.digestSize(0), 2);
+        CHECK.due("below(0, 8, false)", tree.below(0, 8, false), 0);
+        CHECK.due("below(0, 16, false)", tree.below(0, 16, false), 2);
+        CHECK.due("below(0, 31, false)", tree.below(0, 31, false), 2);
+        CHECK.due("below(0, 32, false)", tree.below(0, 32, false), 4);
+        CHECK.due("below(0, 1, true)", tree.below(0, 1, true), 4);
     }
 
     private static void below() {
