@@ -1,5 +1,6 @@
 /** Counts answers that are not the due ones, and ends the program with exit code 1 if there was one. */
 final class Check {
+    private static final int MOST_TOLD = 50;
     private String place = "";
     private int checks = 0;
     private int wrong = 0;
@@ -12,7 +13,9 @@ final class Check {
         checks++;
         if (got != want) {
             wrong++;
-            System.out.println(place + ": " + call + " answered " + got + ", due is " + want);
+            if (wrong <= MOST_TOLD) {
+                System.out.println(place + ": " + call + " answered " + got + ", due is " + want);
+            }
         }
     }
 
@@ -22,6 +25,11 @@ final class Check {
 
     boolean anyWrong() {
         return wrong > 0;
+    }
+
+    /** Whether one more wrong answer would still be told. */
+    boolean fewWrong() {
+        return wrong < MOST_TOLD;
     }
 
     void end() {
