@@ -175,7 +175,8 @@ public final class CallBoundaryTest {
         }
         SAYS.holds("or journal and open block of the leaf have 48 items together (fewer after a crash)", 2, 16, LEAF,
             adds(1, 5, 5), "flush(1) = 2", Sentences.times(46, "add(1, 5) = true"),
-            "add(1, 6) = false; crash(1) = true", adds(1, 6, 6), "add(1, 6) = false; flush(1) = 2; total(1) = 48; sum(1) = 242");
+            "add(1, 6) = false; crash(1) = true", adds(1, 6, 6),
+            "add(1, 6) = false; flush(1) = 2; total(1) = 48; sum(1) = 242");
         SAYS.holds("or journal and open block of the leaf have 48 items together (a crash loses none of the journal)",
             2, 16, LEAF, full, "crash(1) = true; add(1, 6) = false; total(1) = 48");
         SAYS.holds("of the leaf (another has room)", 2, 16, LEAF, "attach(0, true) = 2", full,
@@ -269,6 +270,10 @@ public final class CallBoundaryTest {
             "crash(1) = true; total(0) = 8; covered(0, 2) = 4");
         SAYS.holds("A node goes down (another node of the same parent keeps its own)", 2, 16, tree,
             "crash(1) = true; total(3) = 4");
+        SAYS.holds("A node goes down (what other nodes keep has its version still)", 2, 16, tree,
+            "report(3) = 5; report(3) = 6; deliver(6) = 1; crash(1) = true; deliver(5) = 0; total(0) = 8");
+        SAYS.holds("A node goes down (what other nodes keep for other children stays)", 2, 16, tree,
+            "crash(1) = true; report(3) = 5; deliver(5) = 1; total(0) = 8; covered(0, 2) = 4");
         SAYS.holds("A node goes down (its children keep theirs)", 2, 16, tree,
             "crash(0) = true; total(1) = 4; total(3) = 4");
         SAYS.holds("A node goes down (its leaves keep their items)", 2, 16, tree,
@@ -318,6 +323,8 @@ public final class CallBoundaryTest {
             adds(2, 5, 6, 7, 8), "report(2) = 1; copy(1) = 2; deliver(2) = 1; total(1) = 4; total(0) = 0");
         SAYS.holds("with the same [..] version (the copy of an older one is not kept)", 2, 16, LEAF, twoReports,
             "copy(1) = 3; deliver(2) = 1; deliver(3) = 0; total(0) = 8");
+        SAYS.holds("with the same [..] version (a newer one is kept after the copy of an older one)", 2, 16, LEAF,
+            twoReports, "copy(1) = 3; deliver(3) = 1; total(0) = 4; deliver(2) = 1; total(0) = 8; deliver(1) = 0");
         SAYS.holds("with the same [..] version (nor that of the kept one)", 2, 16, LEAF, twoReports,
             "copy(2) = 3; deliver(2) = 1; deliver(3) = 0; total(0) = 8");
         SAYS.holds("with the same [..] version (the next report is newer)", 2, 16, LEAF, "report(1) = 1; copy(1) = 2",
@@ -361,6 +368,8 @@ public final class CallBoundaryTest {
             "report(1) = 1; copy(1) = 2; deliver(1) = 1; drop(2) = true; total(0) = 4");
         SAYS.holds("The message is lost (its version is not given again)", 2, 16, LEAF,
             "report(1) = 1; report(1) = 2; drop(2) = true; report(1) = 3; deliver(3) = 1; deliver(1) = 0");
+        SAYS.holds("The message is lost (the next report is newer than all before)", 2, 16, LEAF,
+            "report(1) = 1; report(1) = 2; drop(1) = true; report(1) = 3; deliver(2) = 1; deliver(3) = 1");
     }
 
     private static void dropRefused() {
@@ -420,6 +429,19 @@ public final class CallBoundaryTest {
             "attach(0, false) = 1; attach(1, false) = 2; attach(2, true) = 3", adds(3, 5, 6, 7, 8),
             "report(3) = 1; deliver(1) = 1; report(2) = 2; deliver(2) = 1; total(1) = 4; total(0) = 0",
             "report(1) = 3; deliver(3) = 1; total(0) = 4; covered(0, 3) = 4");
+        SAYS.holds("the parent of its node (in a chain of 12 nodes)", 2, 16,
+            "attach(0, false) = 1; attach(1, false) = 2; attach(2, false) = 3; attach(3, false) = 4",
+            "attach(4, false) = 5; attach(5, false) = 6; attach(6, false) = 7; attach(7, false) = 8",
+            "attach(8, false) = 9; attach(9, false) = 10; attach(10, true) = 11", adds(11, 5, 6, 7, 8),
+            "report(11) = 1; deliver(1) = 1; report(10) = 2; deliver(2) = 1; report(9) = 3; deliver(3) = 1",
+            "report(8) = 4; deliver(4) = 1; report(7) = 5; deliver(5) = 1; report(6) = 6; deliver(6) = 1",
+            "report(5) = 7; deliver(7) = 1; report(4) = 8; deliver(8) = 1; report(3) = 9; deliver(9) = 1",
+            "report(2) = 10; deliver(10) = 1; total(0) = 0; report(1) = 11; deliver(11) = 1; total(0) = 4",
+            "covered(0, 11) = 4");
+        SAYS.holds("the parent of its node keeps [..] for that child (for each of eleven)", 2, 16,
+            Sentences.count("attach(0, true) = #", 1, 11), Sentences.count("add(#, #) = true; flush(#) = 1", 1, 11),
+            Sentences.count("report(#) = #; deliver(#) = 1", 1, 11), "total(0) = 11; sum(0) = 66",
+            Sentences.count("covered(0, #) = 1", 1, 11));
         SAYS.holds("keeps its summary (which does not grow with the child's)", 2, 16, LEAF, adds(1, 5, 6, 7, 8),
             "report(1) = 1; deliver(1) = 1", adds(1, 9, 9, 9, 9),
             "total(0) = 4; extreme(0, true) = 8; digestSize(0) = 4");

@@ -27,6 +27,7 @@ final class LaterCalls {
         lists.add(withBriefQuestions(deliverAll));
         lists.add(withBriefQuestions(deliverNewestFirst));
         lists.add(withBriefQuestions(reportAll + "; onTheWay(); " + deliverAll));
+        lists.add(withBriefQuestions(deliverAll + "; " + reportAll + "; onTheWay(); " + deliverAll));
         lists.add(withBriefQuestions(reportAll + "; onTheWay(); " + deliverNewestFirst));
         lists.add(withBriefQuestions(Sentences.count("crash(#)", 0, MOST_NODES) + "; " + deliverAll));
         lists.add(withBriefQuestions(Sentences.count("copy(#)", 0, 16) + "; onTheWay(); " + deliverAll));

@@ -6,7 +6,8 @@ public final class QuestionBoundaryTest {
     private static final String TREE = "attach(0, true) = 1; attach(0, false) = 2; attach(2, true) = 3";
     /** What a call answers for a node that is not there, before and after a node has items. */
     private static final String ITEMS = "add(1, 5) = true; flush(1) = 1";
-    private static final String ALL_OF_TEN_LEAVES = allOfTenLeaves();
+    /** 480 items of the greatest value in the root. */
+    private static final String ALL_OF_TEN_LEAVES = tenLeaves("31", "31");
 
     private QuestionBoundaryTest() {}
 
@@ -39,11 +40,12 @@ public final class QuestionBoundaryTest {
         return adds(leaf, values) + "; flush(" + leaf + ") = " + values.length % 4;
     }
 
-    /** 480 items of the greatest value in the root, by 510 calls. */
-    private static String allOfTenLeaves() {
+    /** By 510 calls the root has 240 items of each value, the one from five leaves, the other from five more. */
+    private static String tenLeaves(String first, String second) {
         StringBuilder rows = new StringBuilder(Sentences.count("attach(0, true) = #", 1, 10));
         for (int leaf = 1; leaf <= 10; leaf++) {
-            rows.append("; ").append(Sentences.times(48, "add(" + leaf + ", 31) = true"));
+            String value = leaf <= 5 ? first : second;
+            rows.append("; ").append(Sentences.times(48, "add(" + leaf + ", " + value + ") = true"));
         }
         return rows + "; " + Sentences.count("report(#) = #; deliver(#) = 1", 1, 10);
     }
@@ -191,7 +193,8 @@ public final class QuestionBoundaryTest {
         SAYS.holds("the i-th (the only one)", 1, 16, LEAF, journal(1, 0), "top(1, 0) = 0; top(1, 1) = -1");
         SAYS.holds("the counters of the node's summary (merged)", 2, 16, LEAF, "attach(0, true) = 2",
             journal(1, 8, 7),
-            journal(2, 7, 8), "report(1) = 1; deliver(1) = 1; report(2) = 2; deliver(2) = 1; top(0, 0) = 7; top(0, 1) = 8");
+            journal(2, 7, 8), "report(1) = 1; deliver(1) = 1; report(2) = 2; deliver(2) = 1",
+            "top(0, 0) = 7; top(0, 1) = 8");
     }
 
     private static void topWithoutCounter() {
@@ -303,11 +306,19 @@ public final class QuestionBoundaryTest {
         SAYS.holds("the answer is the greatest value of the first range (the greatest value)", 2, 16, LEAF,
             journal(1, 31),
             "quantile(1, 0) = 31; quantile(1, 1000) = 31");
-        SAYS.holds("come to at least p * n / 1000 (of many leaves)", 2, 2, ALL_OF_TEN_LEAVES,
-            "quantile(0, 1000) = 31; quantile(0, 0) = 31");
+        SAYS.holds("come to at least p * n / 1000 (of a full leaf)", 2, 16, LEAF,
+            Sentences.times(24, "add(1, 3) = true; add(1, 30) = true"),
+            "quantile(1, 0) = 3; quantile(1, 500) = 3; quantile(1, 501) = 30; quantile(1, 1000) = 30");
+        SAYS.holds("come to at least p * n / 1000 (of many leaves)", 2, 16, tenLeaves("3", "31"),
+            "quantile(0, 500) = 3; quantile(0, 501) = 31");
+        SAYS.holds("come to at least p * n / 1000 (of many leaves, p is 1000)", 2, 16, tenLeaves("3", "31"),
+            "quantile(0, 1000) = 31; quantile(0, 0) = 3");
     }
 
     private static void quantileOfWideRanges() {
+        // The 240 items of 3 are just as many as t in the end and rise to range 2.
+        SAYS.holds("the greatest value of the first range (of many leaves)", 2, 2, tenLeaves("3", "31"),
+            "quantile(0, 500) = 15; quantile(0, 501) = 31");
         SAYS.holds("by rising greatest values (a wide range comes after the single values in it)", 2, 2, LEAF,
             // The 3 is in range 1.
             journal(1, 9, 9, 3), "quantile(1, 0) = 9; quantile(1, 666) = 9; quantile(1, 667) = 31");

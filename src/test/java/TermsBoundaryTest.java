@@ -339,6 +339,14 @@ public final class TermsBoundaryTest {
             journal(1, 31), journal(2, 0), both, "extreme(0, false) = 0; extreme(0, true) = 31");
         SAYS.holds("merged into the empty summary (its least and greatest are none)", 2, 16, TWO_LEAVES,
             journal(1, 20), "report(1) = 1; deliver(1) = 1; extreme(0, false) = 20; extreme(0, true) = 20");
+        SAYS.holds("merged into the empty summary (nothing is left of before a crash)", 2, 16, TWO_LEAVES,
+            journal(1, 0, 31), journal(2, 9), "report(1) = 1; deliver(1) = 1; extreme(0, false) = 0; extreme(0, true) = 31",
+            "crash(0) = true; report(2) = 2; deliver(2) = 1; extreme(0, false) = 9; extreme(0, true) = 9; sum(0) = 9");
+        SAYS.holds("merged into the empty summary (nothing is left of an older message)", 2, 16,
+            "attach(0, false) = 1; attach(1, true) = 2; attach(1, true) = 3", journal(2, 0, 31), journal(3, 9),
+            "report(2) = 1; deliver(1) = 1; report(1) = 2; deliver(2) = 1; extreme(0, true) = 31; crash(1) = true",
+            "report(3) = 3; deliver(3) = 1; report(1) = 4; deliver(4) = 1; extreme(0, false) = 9; extreme(0, true) = 9",
+            "total(0) = 1; sum(0) = 9; covered(0, 2) = 0; covered(0, 3) = 1; estimate(0, 0) = 0; digestSize(0) = 1");
     }
 
     private static void mergeCounters() {
@@ -359,7 +367,8 @@ public final class TermsBoundaryTest {
             adds(1, 5, 5, 5, 6), journal(1, 6), journal(2, 7, 7), both,
             "estimate(0, 5) = 1; estimate(0, 6) = 0; estimate(0, 7) = 0; top(0, 0) = 5; top(0, 1) = -1");
         SAYS.holds("those that are 0 [..] then are gone (all of them)", 1, 16, TWO_LEAVES,
-            journal(1, 5, 5), journal(2, 6, 6), both, "estimate(0, 5) = 0; estimate(0, 6) = 0; top(0, 0) = -1; total(0) = 4");
+            journal(1, 5, 5), journal(2, 6, 6), both,
+            "estimate(0, 5) = 0; estimate(0, 6) = 0; top(0, 0) = -1; total(0) = 4");
     }
 
     private static void mergeCountersBeyondOneTooMany() {
@@ -369,6 +378,14 @@ public final class TermsBoundaryTest {
         SAYS.holds("the (k + 1)-th greatest (of k + 2)", 2, 16, TWO_LEAVES, four, both,
             "estimate(0, 5) = 1; estimate(0, 7) = 2; estimate(0, 6) = 0; top(0, 0) = 7; top(0, 1) = 5",
             "top(0, 2) = -1");
+        SAYS.holds("the (k + 1)-th greatest (of 2 * k, with the greatest k)", 6, 16, TWO_LEAVES,
+            // 1 to 6 have 2 each, 7 has 3 and 8 to 12 have 1: the seventh greatest is 2.
+            journal(1, 1, 2, 3, 4, 5, 6, 1, 2, 3, 4, 5, 6), journal(2, 7, 8, 9, 10, 11, 12, 7, 7), both,
+            "estimate(0, 7) = 1; top(0, 0) = 7; top(0, 1) = -1", Sentences.count("estimate(0, #) = 0", 1, 6),
+            Sentences.count("estimate(0, #) = 0", 8, 12), "total(0) = 20");
+        SAYS.holds("the (k + 1)-th greatest (of k + 1, with the greatest k)", 6, 16, TWO_LEAVES,
+            journal(1, 1, 2, 3, 4, 5, 6, 1, 2, 3, 4, 5, 6), journal(2, 7), both, "estimate(0, 7) = 0",
+            Sentences.count("estimate(0, #) = 1", 1, 6), "top(0, 5) = 6; top(0, 6) = -1");
         SAYS.holds("those that are [..] less then are gone (and answer 0)", 2, 16, TWO_LEAVES, four, both,
             "estimate(0, 8) = 0");
         SAYS.holds("those that are [..] less then are gone (a later merge finds none)", 2, 16, THREE_LEAVES, four,
@@ -387,7 +404,8 @@ public final class TermsBoundaryTest {
             "below(1, 1, false) = 1; below(0, 1, false) = 0; below(0, 15, false) = 0; below(0, 16, false) = 1",
             "below(0, 16, true) = 1; below(0, 17, true) = 2; below(0, 31, false) = 1; digestSize(0) = 2");
         SAYS.holds("then the digest is compressed (with the new n, still less than d)", 2, 3, TWO_LEAVES,
-            journal(1, 0), journal(2, 16), both, "below(0, 1, false) = 1; below(0, 17, false) = 2; below(0, 16, true) = 1");
+            journal(1, 0), journal(2, 16), both,
+            "below(0, 1, false) = 1; below(0, 17, false) = 2; below(0, 16, true) = 1");
     }
 
     private static void summaryOfLeaf() {
@@ -410,7 +428,8 @@ public final class TermsBoundaryTest {
             "total(0) = 1; extreme(0, false) = 7; extreme(0, true) = 7");
         SAYS.holds("by ascending numbers of the children (not in the order of arrival)", 1, 16, THREE_LEAVES,
             // 1 and 2 undo each other, 3 is left; by the order of arrival 1 would be.
-            journal(1, 1, 1), journal(2, 2, 2), journal(3, 3, 3), "report(3) = 1; deliver(1) = 1; report(2) = 2; deliver(2) = 1",
+            journal(1, 1, 1), journal(2, 2, 2), journal(3, 3, 3),
+            "report(3) = 1; deliver(1) = 1; report(2) = 2; deliver(2) = 1",
             "report(1) = 3; deliver(3) = 1; estimate(0, 3) = 2; estimate(0, 1) = 0; top(0, 0) = 3");
         SAYS.holds("by ascending numbers of the children (digests)", 1, 2, THREE_LEAVES,
             // 1 and 2 first: range 1 would have 2, so 2 and 3 keep 1 each until the third comes.
@@ -419,7 +438,8 @@ public final class TermsBoundaryTest {
             "below(0, 16, false) = 2");
         SAYS.holds("one after the other (not all at once)", 1, 16, THREE_LEAVES,
             // 2 and 1 leave 1, which takes 1 from the next 2; at once the 2 would be taken from the 2.
-            journal(1, 1, 1), journal(2, 2), journal(3, 3, 3), "report(1) = 1; deliver(1) = 1; report(2) = 2; deliver(2) = 1",
+            journal(1, 1, 1), journal(2, 2), journal(3, 3, 3),
+            "report(1) = 1; deliver(1) = 1; report(2) = 2; deliver(2) = 1",
             "report(3) = 3; deliver(3) = 1; estimate(0, 3) = 1; estimate(0, 1) = 0; estimate(0, 2) = 0");
     }
 
