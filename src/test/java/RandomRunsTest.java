@@ -12,20 +12,6 @@ public final class RandomRunsTest {
     private int nodes = 1;
     private int lastMessage = 0;
 
-    /** A small generator of its own, so that a seed tells the same run everywhere. */
-    private static final class Draws {
-        private long state;
-
-        Draws(long seed) {
-            state = seed * 0x9E3779B97F4A7C15L + 1;
-        }
-
-        int upTo(int bound) {
-            state = state * 6364136223846793005L + 1442695040888963407L;
-            return (int) ((state >>> 33) % bound);
-        }
-    }
-
     private RandomRunsTest(int seed) {
         draws = new Draws(seed);
         int k = draws.upTo(10) - 1;
